@@ -41,6 +41,40 @@ final class Due {
         }
     }
 
+    /** All that a desk tells of its state, but for the pad and how much can be undone. */
+    static String told(HandoverDesk desk) {
+        StringBuilder all = new StringBuilder();
+        for (int what = 0; what <= 16; what++) {
+            all.append(desk.count(what)).append(' ');
+        }
+        for (int place = 0; place < 12; place++) {
+            all.append(desk.place(place, 0)).append('/').append(desk.place(place, 1)).append(' ');
+            all.append(desk.checklist(place)).append(' ');
+        }
+        for (int topic = 0; topic < 10; topic++) {
+            for (int what = 0; what <= 6; what++) {
+                all.append(desk.ofTopic(topic, what)).append(' ');
+            }
+            for (int worker = 0; worker < 6; worker++) {
+                all.append(desk.level(worker, topic)).append(' ');
+            }
+            all.append(desk.share(topic)).append(' ');
+        }
+        for (int worker = 0; worker < 6; worker++) {
+            all.append(desk.mean(worker)).append(' ');
+        }
+        return all.append(desk.inOrder()).toString();
+    }
+
+    /** A desk with so many open topics. */
+    static HandoverDesk deskWith(int topics) {
+        HandoverDesk desk = new HandoverDesk();
+        for (int topic = 0; topic < topics; topic++) {
+            desk.open();
+        }
+        return desk;
+    }
+
     static void end() {
         System.out.println(wrong == 0 ? asked + " answers are as due" : wrong + " of " + asked + " answers are not as due");
         if (wrong != 0) {
