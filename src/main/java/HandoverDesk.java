@@ -95,7 +95,7 @@ public final class HandoverDesk {
 
     public int endShift() {
         before.copyFrom(now);
-        return recorded(now.finishAsBought());
+        return recorded(now.finishWith(now.minutesBought()));
     }
 
     // ---- what there is
@@ -112,7 +112,7 @@ public final class HandoverDesk {
             case 0: return now.isOpen(topic) ? 1 : 0;
             case 1: return now.isOpen(topic) ? now.howIs(topic) : NONE;
             case 2: return now.placeInChecklist(topic);
-            case 3: return now.greatestOtherThan(NONE, topic);
+            case 3: return now.greatestFor(topic);
             case 4: return now.missesOf[topic];
             case 5: return now.begunWith[topic];
             case 6: return now.begunKnown[topic];
@@ -201,7 +201,7 @@ public final class HandoverDesk {
         }
         trial.copyFrom(now);
         for (int ended = 0; ended < shifts; ended++) {
-            trial.finishAsBought();
+            trial.finishWith(trial.minutesBought());
         }
         return trial.openThatAre(IS_LOST);
     }
@@ -256,7 +256,11 @@ public final class HandoverDesk {
             return BAD_TEXT;
         }
         before.copyFrom(now);
-        int done = obeyPad();
+        pad.rewind();
+        int done = 0;
+        while (done < MOST_SIGNS && pad.readNext() && now.obey(pad.letter, pad.values) >= 0) {
+            done++;
+        }
         pad.length = 0;
         return recorded(done);
     }
@@ -347,16 +351,6 @@ public final class HandoverDesk {
         }
         thirdTrial.copyFrom(secondTrial);
         return misses + thirdTrial.finishWith(third);
-    }
-
-    /** Obeys the pad, which has no fault; answers how many orders came before the first error. */
-    private int obeyPad() {
-        pad.rewind();
-        int done = 0;
-        while (done < MOST_SIGNS && pad.readNext() && now.obey(pad.letter, pad.values) >= 0) {
-            done++;
-        }
-        return done;
     }
 
     private static int bitsOfShare(float share) {
@@ -453,7 +447,7 @@ public final class HandoverDesk {
         }
 
         boolean isOpen(int topic) {
-            return isTopic(topic) && (openSet >> topic & 1) == 1;
+            return topic >= 0 && topic < TOPICS && (openSet >> topic & 1) == 1;
         }
 
         int onDuty() {
@@ -464,7 +458,11 @@ public final class HandoverDesk {
             return workerAt[Math.floorMod(shift + 1, PLACES)];
         }
 
-        /** The workers and topics of the roster and the checklist get here too: so the look stands at the use. */
+        int minutesBought() {
+            return minutesAt[Math.floorMod(shift, PLACES)];
+        }
+
+        /** Numbers kept in the roster get here, too: so the look at both stands at the use. */
         int levelOf(int worker, int topic) {
             return isWorker(worker) && isTopic(topic) ? levels[worker][topic] : 0;
         }
@@ -524,11 +522,11 @@ public final class HandoverDesk {
             return NONE;
         }
 
-        /** The worker, but for the one left out, with the greatest level; no worker is left out by NONE. */
-        int greatestOtherThan(int leftOut, int topic) {
-            int greatest = leftOut == 0 ? 1 : 0;
-            for (int worker = greatest + 1; worker < WORKERS; worker++) {
-                if (worker != leftOut && levelOf(worker, topic) > levelOf(greatest, topic)) {
+        /** The worker with the greatest level for a topic, of several the lowest one. */
+        int greatestFor(int topic) {
+            int greatest = 0;
+            for (int worker = 1; worker < WORKERS; worker++) {
+                if (levelOf(worker, topic) > levelOf(greatest, topic)) {
                     greatest = worker;
                 }
             }
@@ -618,116 +616,103 @@ public final class HandoverDesk {
             }
             int caller = onDuty();
             int own = levelOf(caller, topic);
-            int others = levelOf(greatestOtherThan(caller, topic), topic);
-            if (!isOpen(topic) || others <= own) {
+            // Whoever has more than the caller is another worker: so the greatest of all will do.
+            int greatest = levelOf(greatestFor(topic), topic);
+            if (!isOpen(topic) || greatest <= own) {
                 return NOT_POSSIBLE;
             }
-            int mean = (own + others + 1) / 2;
+            int mean = (own + greatest + 1) / 2;
             putLevel(caller, topic, mean);
             callsCost += settings[CALL];
             return mean;
-        }
-
-        int finishAsBought() {
-            return finishWith(minutesAt[Math.floorMod(shift, PLACES)]);
         }
 
         /** Ends the shift with so many overlap minutes, whatever was bought; answers the misses. */
         int finishWith(int overlap) {
             int giver = onDuty();
             int taker = nextOnDuty();
-            work(giver);
+            // The roster takes no others; the look stands here because both are indexes below.
+            if (!isWorker(giver) || !isWorker(taker)) {
+                return 0;
+            }
+            work(levels[giver]);
             if (taker != giver) {
-                minutesIdle += passOn(giver, taker, overlap);
+                minutesIdle += passOn(levels[giver], levels[taker], overlap);
                 minutesHad += overlap;
                 minutesCost += overlap * settings[COST];
             }
             shift++;
-            decayAllBut(taker);
-            beginWithOpen(taker);
-            return missesOfChecklist(taker);
+            for (int worker = 0; worker < WORKERS; worker++) {
+                if (worker != taker) {
+                    decay(levels[worker]);
+                }
+            }
+            beginWithOpen(levels[taker]);
+            return missesOfChecklist(levels[taker]);
         }
 
-        private void work(int worker) {
+        private void work(int[] own) {
             for (int topic = 0; topic < topics; topic++) {
                 if (isOpen(topic)) {
-                    putLevel(worker, topic, Math.min(MOST_LEVEL, levelOf(worker, topic) + settings[WORK]));
+                    own[topic] = Math.min(MOST_LEVEL, own[topic] + settings[WORK]);
                 }
             }
         }
 
         /** Answers how many of the minutes are idle. */
-        private int passOn(int giver, int taker, int overlap) {
+        private int passOn(int[] given, int[] taken, int overlap) {
             int left = overlap;
             // The taker's levels only grow here, so what the checklist has no need of now it never needs again.
             for (int place = 0; place < checked; place++) {
                 int topic = checkedTopics[place];
-                while (left > 0 && isNeeded(topic, giver, taker)) {
-                    passOnce(topic, giver, taker);
+                while (left > 0 && isOpen(topic) && taken[topic] < Math.min(settings[KNOWN], given[topic])) {
+                    taken[topic] = Math.min(given[topic], taken[topic] + settings[PASS]);
                     left--;
                 }
             }
-            int widest = widestGap(giver, taker);
+            int widest = widestGap(given, taken);
             while (left > 0 && widest >= 0) {
-                passOnce(widest, giver, taker);
+                taken[widest] = Math.min(given[widest], taken[widest] + settings[PASS]);
                 left--;
-                widest = widestGap(giver, taker);
+                widest = widestGap(given, taken);
             }
             return left;
         }
 
-        private boolean isNeeded(int topic, int giver, int taker) {
-            return isOpen(topic) && !knows(taker, topic) && levelOf(taker, topic) < levelOf(giver, topic);
-        }
-
-        private void passOnce(int topic, int giver, int taker) {
-            putLevel(taker, topic, Math.min(levelOf(giver, topic), levelOf(taker, topic) + settings[PASS]));
-        }
-
-        private int widestGap(int giver, int taker) {
+        private int widestGap(int[] given, int[] taken) {
             int widest = NONE;
             int gap = 0;
             for (int topic = 0; topic < topics; topic++) {
-                int more = levelOf(giver, topic) - levelOf(taker, topic);
-                if (isOpen(topic) && more > gap) {
+                if (isOpen(topic) && given[topic] - taken[topic] > gap) {
                     widest = topic;
-                    gap = more;
+                    gap = given[topic] - taken[topic];
                 }
             }
             return widest;
         }
 
-        private void decayAllBut(int dutiful) {
-            for (int worker = 0; worker < WORKERS; worker++) {
-                if (worker != dutiful) {
-                    decay(worker);
-                }
+        private void decay(int[] own) {
+            for (int topic = 0; topic < TOPICS; topic++) {
+                own[topic] -= (own[topic] * settings[DECAY] + 99) / 100;
             }
         }
 
-        private void decay(int worker) {
-            for (int topic = 0; topic < topics; topic++) {
-                int level = levelOf(worker, topic);
-                putLevel(worker, topic, level - (level * settings[DECAY] + 99) / 100);
-            }
-        }
-
-        private void beginWithOpen(int worker) {
+        private void beginWithOpen(int[] own) {
             for (int topic = 0; topic < topics; topic++) {
                 if (isOpen(topic)) {
                     begunWith[topic]++;
-                    if (knows(worker, topic)) {
+                    if (own[topic] >= settings[KNOWN]) {
                         begunKnown[topic]++;
                     }
                 }
             }
         }
 
-        private int missesOfChecklist(int worker) {
+        private int missesOfChecklist(int[] own) {
             int missed = 0;
             for (int place = 0; place < checked; place++) {
                 int topic = checkedTopics[place];
-                if (isOpen(topic) && !knows(worker, topic)) {
+                if (isOpen(topic) && own[topic] < settings[KNOWN]) {
                     missesOf[topic]++;
                     missed++;
                 }
@@ -745,7 +730,7 @@ public final class HandoverDesk {
                 case 'l': return learnTopic(values[0], values[1], values[2]);
                 case 'r': return changeWorker(values[0], values[1]);
                 case 'm': return changeMinutes(values[0], values[1]);
-                default: return finishAsBought();
+                default: return finishWith(minutesBought());
             }
         }
     }

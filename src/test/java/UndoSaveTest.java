@@ -35,15 +35,12 @@ public final class UndoSaveTest {
     private static void eachChangeIsUndone() {
         for (int kind = 0; kind < KINDS; kind++) {
             HandoverDesk desk = ready();
-            desk.undo();
-            desk.roster(1, 0);
-            int undoable = desk.count(18);
             String before = Due.told(desk);
             Due.holds("change " + kind + " is no error", change(desk, kind) >= 0);
             Due.holds("change " + kind + " is seen", !before.equals(Due.told(desk)));
             String after = Due.told(desk);
             Due.due("change " + kind + " is recorded", desk.count(18), 6);
-            Due.due("change " + kind + " is undone", desk.undo(), undoable - 1);
+            Due.due("change " + kind + " is undone", desk.undo(), 5);
             Due.holds("change " + kind + " leaves nothing", before.equals(Due.told(desk)));
             Due.holds("what was and what is are apart: " + kind, !before.equals(after));
         }
