@@ -63,6 +63,15 @@ public final class EndShiftTest {
         desk.minutes(0, 3);
         desk.endShift();
         levels("the lowest of several", desk, 1, 0, 10, 5);
+        HandoverDesk begun = Due.deskWith(3);
+        begun.learn(0, 0, 92);
+        begun.learn(1, 0, 70);
+        begun.learn(0, 1, 52);
+        begun.learn(1, 1, 20);
+        begun.learn(0, 2, 22);
+        begun.minutes(0, 4);
+        begun.endShift();
+        levels("the most more, not the most: gaps of 30, 40 and 30", begun, 1, 75, 35, 0);
         HandoverDesk known = Due.deskWith(2);
         known.learn(0, 0, 90);
         known.learn(1, 0, 60);

@@ -65,6 +65,23 @@ public final class UndoSaveTest {
         Due.due("count(0)", desk.count(0), 0);
     }
 
+    private static void changesAfterAnUndo() {
+        HandoverDesk desk = Due.deskWith(2);
+        desk.undo();
+        String first = Due.told(desk);
+        desk.learn(1, 0, 10);
+        String second = Due.told(desk);
+        desk.learn(2, 0, 20);
+        String third = Due.told(desk);
+        desk.learn(3, 0, 30);
+        Due.due("undo()", desk.undo(), 3);
+        Due.holds("one change back", third.equals(Due.told(desk)));
+        Due.due("undo()", desk.undo(), 2);
+        Due.holds("two changes back", second.equals(Due.told(desk)));
+        Due.due("undo()", desk.undo(), 1);
+        Due.holds("three changes back", first.equals(Due.told(desk)));
+    }
+
     private static void recordedWithoutADifference() {
         HandoverDesk desk = Due.deskWith(1);
         Due.due("set", desk.set(HandoverDesk.KNOWN, 50), 50);
@@ -151,6 +168,7 @@ public final class UndoSaveTest {
     public static void main(String[] args) {
         eachChangeIsUndone();
         sixAreKept();
+        changesAfterAnUndo();
         recordedWithoutADifference();
         notRecorded();
         saveAndRestore();
