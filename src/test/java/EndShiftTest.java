@@ -1,11 +1,5 @@
 /** Promise 10: the end of a shift, in its four steps. */
 public final class EndShiftTest {
-    private static void levels(String when, HandoverDesk desk, int worker, int... levels) {
-        for (int topic = 0; topic < levels.length; topic++) {
-            Due.due(when + ": level(" + worker + ", " + topic + ")", desk.level(worker, topic), levels[topic]);
-        }
-    }
-
     private static void work() {
         HandoverDesk desk = Due.deskWith(3);
         desk.set(HandoverDesk.DECAY, 0);
@@ -15,12 +9,12 @@ public final class EndShiftTest {
         desk.learn(0, 2, 50);
         desk.turn(2);
         desk.endShift();
-        levels("work, not above 100, not for closed ones", desk, 0, 99, 100, 50);
-        levels("only that of the worker on duty", desk, 1, 0, 0, 0);
+        Due.levels("work, not above 100, not for closed ones", desk, 0, 99, 100, 50);
+        Due.levels("only that of the worker on duty", desk, 1, 0, 0, 0);
         desk.set(HandoverDesk.WORK, 0);
         desk.minutes(1, 0);
         desk.endShift();
-        levels("no work", desk, 1, 0, 0, 0);
+        Due.levels("no work", desk, 1, 0, 0, 0);
     }
 
     private static void theChecklistFirst() {
@@ -32,8 +26,8 @@ public final class EndShiftTest {
         desk.check(1);
         desk.minutes(0, 11);
         Due.due("the second one is missed", desk.endShift(), 1);
-        levels("ten minutes make 2 known, one goes to 1", desk, 1, 0, 5, 50);
-        levels("decay, rounded up", desk, 0, 90, 61, 70);
+        Due.levels("ten minutes make 2 known, one goes to 1", desk, 1, 0, 5, 50);
+        Due.levels("decay, rounded up", desk, 0, 90, 61, 70);
         Due.due("count(4)", desk.count(4), 1);
         Due.due("ofTopic(1, 4)", desk.ofTopic(1, 4), 1);
         Due.due("ofTopic(2, 4)", desk.ofTopic(2, 4), 0);
@@ -49,7 +43,7 @@ public final class EndShiftTest {
         desk.check(0);
         desk.minutes(0, 5);
         Due.due("it cannot become known", desk.endShift(), 1);
-        levels("20, 40, 45, then the other one, then none", desk, 1, 45, 20);
+        Due.levels("20, 40, 45, then the other one, then none", desk, 1, 45, 20);
         Due.due("one minute is idle", desk.count(6), 1);
         Due.due("all five were had", desk.count(5), 5);
         Due.due("and paid", desk.count(7), 15);
@@ -62,7 +56,7 @@ public final class EndShiftTest {
         desk.learn(0, 2, 52);
         desk.minutes(0, 3);
         desk.endShift();
-        levels("the lowest of several", desk, 1, 0, 10, 5);
+        Due.levels("the lowest of several", desk, 1, 0, 10, 5);
         HandoverDesk begun = Due.deskWith(3);
         begun.learn(0, 0, 92);
         begun.learn(1, 0, 70);
@@ -71,7 +65,7 @@ public final class EndShiftTest {
         begun.learn(0, 2, 22);
         begun.minutes(0, 4);
         begun.endShift();
-        levels("the most more, not the most: gaps of 30, 40 and 30", begun, 1, 75, 35, 0);
+        Due.levels("the most more, not the most: gaps of 30, 40 and 30", begun, 1, 75, 35, 0);
         HandoverDesk known = Due.deskWith(2);
         known.learn(0, 0, 90);
         known.learn(1, 0, 60);
@@ -79,7 +73,7 @@ public final class EndShiftTest {
         known.check(0);
         known.minutes(0, 2);
         known.endShift();
-        levels("a known one of the checklist has no right of way", known, 1, 70, 0);
+        Due.levels("a known one of the checklist has no right of way", known, 1, 70, 0);
     }
 
     private static void theLessSkilledGiver() {
@@ -91,7 +85,7 @@ public final class EndShiftTest {
         desk.check(0);
         desk.minutes(0, 3);
         Due.due("missed", desk.endShift(), 1);
-        levels("as much is not less", desk, 1, 20, 6);
+        Due.levels("as much is not less", desk, 1, 20, 6);
         Due.due("idle", desk.count(6), 1);
     }
 
@@ -105,8 +99,8 @@ public final class EndShiftTest {
         desk.turn(0);
         desk.minutes(0, 10);
         Due.due("a closed one is no miss", desk.endShift(), 0);
-        levels("it is passed over", desk, 1, 0, 50, 0);
-        levels("it decays, but has no work", desk, 0, 72, 79, 43);
+        Due.levels("it is passed over", desk, 1, 0, 50, 0);
+        Due.levels("it decays, but has no work", desk, 0, 72, 79, 43);
         Due.due("it was not begun with", desk.ofTopic(0, 5), 0);
         Due.due("an open one was", desk.ofTopic(1, 5), 1);
         Due.due("with known", desk.ofTopic(1, 6), 1);
@@ -126,8 +120,8 @@ public final class EndShiftTest {
         desk.learn(3, 0, 11);
         desk.check(0);
         Due.due("missed without a handover", desk.endShift(), 1);
-        levels("work, no decay", desk, 0, 49);
-        levels("decay of the others", desk, 3, 9);
+        Due.levels("work, no decay", desk, 0, 49);
+        Due.levels("decay of the others", desk, 3, 9);
         Due.due("no minutes", desk.count(5), 0);
         Due.due("none idle", desk.count(6), 0);
         Due.due("no cost", desk.count(7), 0);

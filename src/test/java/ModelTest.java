@@ -1,10 +1,14 @@
 /** Long runs of mixed calls, each answer beside that of PlainDesk; the same runs every time. */
 public final class ModelTest {
-    private static final int RUNS = 400;
+    private static final int RUNS = 500;
     private static final int CALLS = 512;
+    /** A text is put by more than one call, but never by more than these. */
+    private static final int AT_ONCE = 10;
+    private static final int WRITE = 20;
     private static final int[] WEIGHTS = {6, 5, 4, 5, 3, 8, 14, 6, 12, 6, 10, 3, 10, 3, 3, 4, 4, 3, 3, 1, 10, 1, 4, 6, 6, 2, 2};
 
     private final long[] seed;
+    private int made = 0;
     private final HandoverDesk desk = new HandoverDesk();
     private final PlainDesk plain = new PlainDesk();
 
@@ -70,6 +74,7 @@ public final class ModelTest {
                 number ^= 1L << below(64);
             }
             Due.due("put(" + number + ")", desk.put(number), plain.put(number));
+            made++;
         }
     }
 
@@ -114,7 +119,7 @@ public final class ModelTest {
             case 18: a = about(1, 50); Due.due("lostIn(" + a + ")", desk.lostIn(a), plain.lostIn(a)); break;
             case 19: a = about(0, 40); b = about(0, 3);
                 Due.due("bestSplit(" + a + ", " + b + ")", desk.bestSplit(a, b), plain.bestSplit(a, b)); break;
-            case 20: write(); break;
+            case WRITE: write(); break;
             case 21: Due.due("wipe()", desk.wipe(), plain.wipe()); break;
             case 22: Due.due("fault()", desk.fault(), plain.fault()); break;
             case 23: Due.due("carryOut()", desk.carryOut(), plain.carryOut()); break;
@@ -128,6 +133,7 @@ public final class ModelTest {
     private void keepPadUseful() {
         if (plain.fault() != -6 && below(5) == 0) {
             Due.due("wipe()", desk.wipe(), plain.wipe());
+            made++;
         }
     }
 
@@ -136,7 +142,7 @@ public final class ModelTest {
         for (int weight : WEIGHTS) {
             sum += weight;
         }
-        for (int call = 0; call < CALLS && Due.wrong() == 0; call++) {
+        while (made < CALLS - AT_ONCE && Due.wrong() == 0) {
             int drawn = below(sum);
             int method = 0;
             while (drawn >= WEIGHTS[method]) {
@@ -144,6 +150,7 @@ public final class ModelTest {
                 method++;
             }
             answers(method);
+            made += method == WRITE ? 0 : 1;
             keepPadUseful();
         }
         return Due.wrong() == 0;

@@ -28,11 +28,11 @@ public final class RoomTest {
         long made = bytes() - before;
         Due.holds("a desk is at most 40,000 bytes: " + made, made <= 40_000);
         before = bytes();
-        for (int turn = 0; turn < 100; turn++) {
+        for (int turn = 0; turn < 18; turn++) {
             everyMethod(desk, turn);
         }
         long used = bytes() - before;
-        Due.holds("2,800 calls make next to nothing: " + used, used <= 10_000);
+        Due.holds("504 calls make next to nothing: " + used, used <= 2_000);
         Due.end();
     }
 }

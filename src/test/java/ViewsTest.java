@@ -149,20 +149,24 @@ public final class ViewsTest {
         Due.due("of a closed one", closed.share(0), Float.floatToIntBits((float) (2 / 3.0)));
     }
 
+    /** The worker 2 has all of each topic but the last one. */
+    private static HandoverDesk allButTheLast(int topics, int levelOfTheLast) {
+        HandoverDesk desk = Due.deskWith(topics);
+        for (int topic = 0; topic < topics; topic++) {
+            desk.learn(2, topic, topic < topics - 1 ? 100 : levelOfTheLast);
+        }
+        return desk;
+    }
+
     private static void mean() {
-        HandoverDesk desk = new HandoverDesk();
-        Due.due("without topics", desk.mean(0), 0);
+        Due.due("without topics", new HandoverDesk().mean(0), 0);
         for (int topics = 1; topics <= 10; topics++) {
-            desk.open();
             for (int level = 1; level <= 100; level++) {
-                int sum = 0;
-                desk.learn(2, topics - 1, 1);
-                for (int topic = 0; topic < topics; topic++) {
-                    sum += desk.level(2, topic);
-                }
-                Due.due(sum + " over " + topics, desk.mean(2), Double.doubleToLongBits((double) sum / topics));
+                int sum = 100 * (topics - 1) + level;
+                Due.due(sum + " over " + topics, allButTheLast(topics, level).mean(2), Double.doubleToLongBits((double) sum / topics));
             }
         }
+        HandoverDesk desk = allButTheLast(10, 100);
         Due.due("all are 100", desk.mean(2), Double.doubleToLongBits(100.0));
         Due.due("none", desk.mean(3), 0);
         desk.learn(3, 4, 1);
